@@ -53,16 +53,14 @@ public final class MendDesk {
     }
 
     public int hole(int kind, int part, int a, int b) {
-        boolean known = kind == 0 || kind == 2 || kind == 3 || kind == 4;
-        if (!known || !net.hasPart(part) || !isSpan(a, b)) return BAD;
-        if (net.holeCount >= HOLES) return FULL;
-        return net.addHole(newHole(kind, part, a, b));
+        if (!net.hasPart(part) || !isSpan(a, b)) return BAD;
+        Hole made = newHole(kind, part, a, b);
+        return made == null ? BAD : net.addHole(made);
     }
 
     public int chained(int part, int a, int b, int to) {
         Hole target = net.holeAt(to);
         if (!net.hasPart(part) || !isSpan(a, b) || target == null) return BAD;
-        if (net.holeCount >= HOLES) return FULL;
         return net.addHole(new Chained(part, a, b, to, target.part));
     }
 
@@ -137,14 +135,12 @@ public final class MendDesk {
         if (!net.hasPart(part) || !isVersion(version) || !isBetween(hands, 1, TOP_HANDS)) return BAD;
         if (need != NO_NEED && mends.mendAt(need) == null) return BAD;
         if (!isBetween(first, 0, WEEKS - 1) || !isBetween(last, first, WEEKS - 1)) return BAD;
-        if (mends.mendCount >= MENDS) return FULL;
         return mends.addMend(new Mend(part, version, hands, need, first, last));
     }
 
     public int quarrel(int part, int version, int other, int version2) {
         if (!net.hasPart(part) || !net.hasPart(other) || part == other) return BAD;
         if (!isVersion(version) || !isVersion(version2)) return BAD;
-        if (mends.quarrelCount >= QUARRELS) return FULL;
         return mends.addQuarrel(new Quarrel(part, version, other, version2));
     }
 
@@ -258,12 +254,14 @@ public final class MendDesk {
         return there ? set | bit(n) : set & ~bit(n);
     }
 
+    /** Null for other kinds: a chained one wants to know its target, and has a call of its own. */
     private static Hole newHole(int kind, int part, int a, int b) {
         switch (kind) {
+            case 0: return new Hole(part, a, b);
             case 2: return new Shielded(part, a, b);
             case 3: return new Used(part, a, b);
             case 4: return new Dormant(part, a, b);
-            default: return new Hole(part, a, b);
+            default: return null;
         }
     }
 

@@ -528,6 +528,11 @@ public final class PromiseTest {
         due("next(0) of like ones", like.next(0), 0);
         like.mend(1, 1, 1, -1, 0, 0);
         due("next(3) without a gain", like.next(3), NONE);
+        MendDesk little = openParts(1, 1);
+        little.mend(1, 2, 9, -1, 0, 0);
+        due("next(0) with the least gain by the most hands", little.next(0), 0);
+        little.mend(0, 2, 1, -1, 0, 0);
+        due("next(0): 1/1 is more than 1/9", little.next(0), 1);
     }
 
     private static void planSums() {
