@@ -42,6 +42,7 @@ public final class FaceTest {
         checkConstructor();
         checkClassesInside();
         checkSource();
+        checkSections();
         System.out.println(wrong == 0 ? "the face is as due" : wrong + " faults of the face");
         if (wrong != 0) System.exit(1);
     }
@@ -115,5 +116,20 @@ public final class FaceTest {
         Matcher imports = Pattern.compile("import ([\\w.*]+);").matcher(code);
         List<String> allowed = List.of("java.util.Arrays", "java.util.ArrayList", "java.util.List", "java.util.Iterator");
         while (imports.find()) check(allowed.contains(imports.group(1)), "it imports no " + imports.group(1));
+    }
+
+    /** The document names the line that stands ahead of each group of calls, and the calls of it. */
+    private static void checkSections() throws IOException {
+        String source = Files.readString(SOURCE);
+        int first = source.indexOf("// ---- 1 parts and holes\n");
+        int second = source.indexOf("// ---- 2 mends\n");
+        check(first >= 0 && second >= 0, "both groups of calls have their line");
+        boolean isFirstGroup = true;
+        for (String row : FACE) {
+            String name = row.substring(4, row.indexOf('('));
+            if (name.equals("mend")) isFirstGroup = false;
+            int at = source.indexOf("public int " + name + "(");
+            check(at > first && (at < second) == isFirstGroup, name + " stands behind the line of its group");
+        }
     }
 }
